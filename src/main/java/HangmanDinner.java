@@ -366,8 +366,6 @@ public final class HangmanDinner {
         Tape t = tapeAt(tape);
         if (t == null) return NONE;
         if (t.sort != Tape.BYTES && t.sort != Tape.NO_SORT) return CAST;
-        if (now.size == 0) return NOT_THERE;
-        if (!t.has(i)) return 100;
         for (int k = 0; k < now.size; k++) {
             if (!t.has(i + k)) return 100 + k;
             if (t.items[i + k] != now.street[k]) return k;

@@ -416,14 +416,29 @@ public final class PromisesTest {
         fine("fear 1 ((((p=1))))&((((v=1))))|!!!!k=1");
         fine("fear 1 !!!!p=1&!!!!v=1");
         fine("fear 00 (p=1|p=2)&(p<3|(p>4))");
+        HangmanDinner again = HelperDue.plain(1);
+        due("9 a text", HelperDue.town(again, "fear 1 p=1&p=1"), 0);
+        due("9 a shorter one", HelperDue.town(again, "fear 1 "), -17);
+        due("9 a longer one", HelperDue.town(again, "fear 1 p"), -18);
+        due("9 a word alone", HelperDue.town(again, "ill"), -13);
+        due("9 no text", HelperDue.town(again, ""), -10);
+        due("9 another text", HelperDue.town(again, "fear 7 p=0"), 1);
+        due("9 nothing is left of the others", again.of(0, 7), 7);
         String ten = "ill 1;ill 2;ill 3;ill 4;ill 5;ill 6;ill 7;ill 8;ill 9;ill 0";
         fine(ten);
         fault(ten + ";", 59);
         fault(ten + ";ill 1", 59);
-        String hundred = "fear 10 p=10|p=20|p=30|p=40|p=50|p=60|p=70|p=80|p=90|p=11|p=12|p=13|p=14|p=15|p=16|p=17|p=18|p=19|p=1";
-        fine(hundred.substring(0, 97));
-        fault(hundred.substring(0, 98), 98);
-        fault(hundred.substring(0, 100), 100);
+        String base = "fear 10 p=10|p=20|p=30|p=40|p=50|p=60|p=70|p=80|p=90|p=11|p=12|p=13|p=14|p=15|p=16|p=17|p=18";
+        fine(base);
+        fine(base + "|p=1|p=9");
+        fine(base + ";ill 5");
+        fault(base + "|p=14|p=", 100);
+        fault(base + "|p=14|p<", 100);
+        fine(base + "&!!!!p=1");
+        fault(base + ";ill 45;", 100);
+        fault(base + ";ill 456", 99);
+        fault(base + ";fear 1 ", 100);
+        fault(base + "|p=1111", 97);
     }
 
     /** The dread of a house by one E, which is worth 7. */
@@ -452,6 +467,10 @@ public final class PromisesTest {
         holds("v>4", 6);
         holds("!p=1", 5);
         holds("!!p=1", 2);
+        holds("!!!p=1", 5);
+        holds("!!!!p=1", 2);
+        holds("!(!p=1)", 2);
+        holds("(!(!p=1))", 2);
         holds("!p=1&v=4", 1);
         holds("!(p=1&v=4)", 7);
         holds("!p=0&p=1", 2);
@@ -459,6 +478,10 @@ public final class PromisesTest {
         holds("p=1&p=2|p=0", 1);
         holds("(p=0|p=1)&p=1", 2);
         holds("p=0|p=1|p=2", 7);
+        holds("p=2|p<1", 5);
+        holds("p>0&p<2", 2);
+        holds("p<1|p>1", 5);
+        holds("v=5|(p>0&(v<6|p<1))", 2);
         holds("p<2&p>0&v=5", 2);
         holds("p=0&v=4|p=1&v=4|p=2&v=6", 5);
         holds("(p=0)|(p=2)", 5);
@@ -575,6 +598,12 @@ public final class PromisesTest {
         due("11 owes stays", round.of(1, 3) * 10 + round.of(0, 3), 44);
         due("11 point stays", round.told(2), point);
 
+        HangmanDinner stays = HelperDue.street(h(0, 0, 99), h(0, 0, 0), h(0, 0, 0));
+        stays.set(1, 1, 2);
+        stays.pass(1);
+        due("11 point comes to its own place", stays.told(2), 1);
+        due("11 one owes less, one more", stays.of(1, 3) * 10 + stays.of(0, 3), 11);
+
         HangmanDinner clash = HelperDue.plain(1);
         clash.set(0, 2, 130);
         clash.pass(1);
@@ -618,6 +647,11 @@ public final class PromisesTest {
         x.shut(2, true);
         due("12 nobody", x.on(3, 0), -5);
         due("12 hungry", x.on(7, 2), 7);
+        HangmanDinner rich = HelperDue.street(h(1, 5, 55), h(0, 0, 0));
+        due("12 a rich one in week 2", rich.on(2, 0), 1);
+        HangmanDinner told = HelperDue.street(h(6, 0, 55), h(0, 0, 0));
+        told.row(0, 2, 8);
+        due("12 a told one in week 2, dined once", told.on(2, 0), 1);
         due("12 no such what", x.on(0, 3), -1);
         due("12 no such what", x.on(0, -1), -1);
         due("12 no such what", x.on(0, 9), -1);
@@ -685,6 +719,16 @@ public final class PromisesTest {
         x.shut(0, true);
         due("14 all are shut", x.feign(6, 0), 1);
         due("14 all are shut", x.feign(6, 1), 0);
+        // By {} he goes to 0, 1, 2; by {0} to 1, 0, 0, as 2 is ill in week 1: 0 dines more often by feigning.
+        HangmanDinner gains = HelperDue.plain(3);
+        HelperDue.town(gains, "fear 99 p=2&w=1");
+        due("14 neither 0, nor 01, nor 02", gains.feign(3, 0), 5);
+        due("14 nobody feigns", gains.feign(3, 1), 0);
+        HangmanDinner had = HelperDue.plain(2);
+        had.pass(2);
+        had.shut(1, true);
+        due("14 who is shut is not asked", had.feign(1, 0), 1);
+        due("14 the other feigns", had.feign(1, 1), 1);
         due("14 no such what", x.feign(0, 2), -1);
         due("14 no such what", x.feign(1, -1), -1);
         due("14 n below", x.feign(0, 0), -2);
@@ -958,6 +1002,7 @@ public final class PromisesTest {
         x.see(1, 1);
         x.plan(0, 0);
         x.plan(1, 1);
+        x.plan(0, 0);
         x.book(1, 3);
         int[] before = all(x);
         due("24 three", x.image(), 3);
@@ -974,6 +1019,7 @@ public final class PromisesTest {
         due("25 tapes stay", x.read(0, 0), 9);
         due("25 the trace stays", x.count(6), 1);
         x.row(1, 1, 9);
+        x.house(0, 0, 0);
         x.pass(20);
         due("25 once more", x.undo(), 3);
         due("25 row again", x.row(1, 1, 0), 0);
@@ -1022,10 +1068,13 @@ public final class PromisesTest {
         x.pass(1);
         x.shut(0, true);
         x.pass(2);
+        x.see(-1, 0);
         x.see(2, 2);
         x.plan(-1, 0);
         x.plan(2, 2);
-        x.book(2, 3);
+        x.plan(3, 2);
+        x.book(-1, 0);
+        x.book(2, 4);
         x.tape(0, 0, 1);
         x.item(0, 0, 9);
         x.feed('i');
@@ -1116,7 +1165,12 @@ public final class PromisesTest {
         y.act(0, 2, 3);
         due("26 no such house", y.act(-1, 1, 7), 0);
         trace(y, "26 no such house");
-        due("26 no such act", y.act(0, -1, 7), 0);
+        for (int house = 0; house < 3; house++) {
+            due("26 no such act", y.act(house, -1, 7), 0);
+            due("26 no such act", y.act(house, 3, 7), 0);
+            due("26 no such act", y.act(house, MIN, 7), 0);
+            due("26 no such act", y.act(house, MAX, 7), 0);
+        }
     }
 
     private static void promise27Trace() {
@@ -1185,18 +1239,21 @@ public final class PromisesTest {
             due("30 last is 0", x.read(sort, 59), 0);
             due("30 no more", x.read(sort, 60), NO);
         }
+        x.item(2, 0, 4);
         x.item(2, 3, 5);
         due("30 no item", x.tape(2, 2, 0), 1);
         due("30 none is there", x.read(2, 0), NO);
         due("30 place, not nothing", x.item(2, 0, 1), PLACE);
         due("30 anew", x.tape(2, 2, 4), 1);
         due("30 all 0", x.read(2, 3), 0);
+        due("30 all 0", x.read(2, 0), 0);
         x.item(2, 3, 5);
         due("30 bad", x.tape(2, 2, 61), -2);
         due("30 size", x.tape(2, 2, -1), SIZE);
         due("30 nothing changed", x.read(2, 3), 5);
         due("30 holds nothing", x.tape(2, -1, 99), 1);
         due("30 nothing", x.read(2, 3), NO);
+        due("30 nothing", x.read(2, 0), NO);
         due("30 nothing", x.item(2, 3, 1), NOTHING);
         due("30 holds nothing", x.tape(2, -1, -99), 1);
     }
