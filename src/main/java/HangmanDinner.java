@@ -228,7 +228,7 @@ public final class HangmanDinner {
         for (int house = 0; house < trial.size; house++) {
             trial.houses[house].shut = now.houses[house].shut;
         }
-        trial.thursdays(n - 1);
+        for (int i = 1; i < n; i++) trial.thursday();
         for (int house = 0; house < trial.size; house++) {
             dinedBySet[MOST_HOUSES * set + house] = trial.houses[house].dined;
         }
